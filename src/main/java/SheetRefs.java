@@ -118,7 +118,7 @@ public final class SheetRefs {
         if (past.size == 0) {
             return refused(NO);
         }
-        past.restore(sheet.slots);
+        past.restore(sheet);
         values.forget();
         return past.size;
     }
@@ -260,7 +260,7 @@ public final class SheetRefs {
 
     /** Stands ahead of every change: what was can be gone back to, and no value holds any longer. */
     private void leaveState() {
-        past.keep(sheet.slots);
+        past.keep(sheet);
         values.forget();
     }
 
@@ -303,7 +303,7 @@ public final class SheetRefs {
         private static final int MOST_BYTES = 60;
 
         private final int[] bytes = new int[MOST_BYTES];
-        private int length;
+        int length;
 
         boolean isFull() {
             return length >= MOST_BYTES;
@@ -336,7 +336,7 @@ public final class SheetRefs {
         private static final int MOST_FIGURES = 3;
 
         private final Text text;
-        private final int[] found = new int[MOST_TERMS];
+        final int[] found = new int[MOST_TERMS];
         private int place;
 
         Reader(Text text) {
@@ -454,16 +454,17 @@ public final class SheetRefs {
         private static final int BODY_AT = 7;
 
         static int ofNumber(int number) {
-            return NUMBER | number << BODY_AT;
+            return NUMBER | (number << BODY_AT);
         }
 
         static int ofPlace(int column, int row, int fixed) {
-            int term = PLACE | fixed << FIXED_AT;
+            int term = PLACE | (fixed << FIXED_AT);
             return with(with(term, COLUMNS, column), ROWS, row);
         }
 
         static int ofBlock(int first, int second) {
-            int term = BLOCK | (fixed(first) | fixed(second) << 2) << FIXED_AT;
+            int fixed = fixed(first) | (fixed(second) << 2);
+            int term = BLOCK | (fixed << FIXED_AT);
             for (int axis = COLUMNS; axis <= ROWS; axis++) {
                 term = with(term, axis, coordinate(first, axis));
                 term = with(term, axis + 2, coordinate(second, axis));
@@ -476,7 +477,7 @@ public final class SheetRefs {
         }
 
         static int fixed(int term) {
-            return term >> FIXED_AT & 15;
+            return (term >> FIXED_AT) & 15;
         }
 
         static int number(int term) {
@@ -484,7 +485,7 @@ public final class SheetRefs {
         }
 
         static int coordinate(int term, int index) {
-            return term >> shiftOf(index) & 7;
+            return (term >> shiftOf(index)) & 7;
         }
 
         static boolean refers(int term) {
@@ -516,6 +517,10 @@ public final class SheetRefs {
             return with(come, axis + 2, Math.min(greatest(term, axis) + n, SIDE - 1));
         }
 
+        /**
+         * A least line that goes becomes a, a greatest one a - 1: that is as far as they can come
+         * up, and it leaves nothing of a term whose lines all go.
+         */
         static int whenLinesGo(int term, int axis, int a, int n) {
             if (!refers(term) || greatest(term, axis) < a) {
                 return term;
@@ -539,7 +544,7 @@ public final class SheetRefs {
             int coordinates = kind(term) == BLOCK ? 4 : 2;
             int then = term;
             for (int i = 0; i < coordinates; i++) {
-                boolean stays = (staying >> i & 1) == 1;
+                boolean stays = ((staying >> i) & 1) == 1;
                 int by = i % 2 == COLUMNS ? columns : rows;
                 int x = coordinate(term, i) + (stays ? 0 : by);
                 if (!isWithin(x, 0, SIDE - 1)) {
@@ -564,15 +569,15 @@ public final class SheetRefs {
             int first = coordinate(block, axis);
             int second = coordinate(block, axis + 2);
             int term = with(with(block, axis, second), axis + 2, first);
-            int firstFixed = fixed(block) >> axis & 1;
-            int secondFixed = fixed(block) >> axis + 2 & 1;
+            int firstFixed = (fixed(block) >> axis) & 1;
+            int secondFixed = (fixed(block) >> (axis + 2)) & 1;
             // Two bits that differ change places when both are turned over.
-            return firstFixed == secondFixed ? term : term ^ 5 << axis << FIXED_AT;
+            return firstFixed == secondFixed ? term : term ^ ((5 << axis) << FIXED_AT);
         }
 
         private static int with(int term, int index, int x) {
             int shift = shiftOf(index);
-            return term & ~(7 << shift) | x << shift;
+            return (term & ~(7 << shift)) | (x << shift);
         }
 
         private static int shiftOf(int index) {
@@ -582,8 +587,8 @@ public final class SheetRefs {
 
     /** A rectangle of cells that lies within the sheet. */
     private static final class Area {
-        private final int column;
-        private final int row;
+        final int column;
+        final int row;
         private final int width;
         private final int height;
 
@@ -618,7 +623,7 @@ public final class SheetRefs {
     private static final class Sheet {
         private static final int GONE = -1;
 
-        private final int[] slots = new int[SLOTS];
+        final int[] slots = new int[SLOTS];
         /** The slots as they were ahead of the change that is under way. */
         private final int[] ahead = new int[SLOTS];
 
@@ -828,24 +833,21 @@ public final class SheetRefs {
 
         private final int[] states = new int[MOST_STATES * SLOTS];
         private int next;
-        private int size;
+        int size;
 
-        void keep(int[] slots) {
-            if (slots.length != SLOTS) {
-                return;
-            }
-            System.arraycopy(slots, 0, states, next * SLOTS, SLOTS);
+        void keep(Sheet sheet) {
+            System.arraycopy(sheet.slots, 0, states, next * SLOTS, SLOTS);
             next = (next + 1) % MOST_STATES;
             size = Math.min(size + 1, MOST_STATES);
         }
 
-        void restore(int[] slots) {
-            if (size == 0 || slots.length != SLOTS) {
+        void restore(Sheet sheet) {
+            if (size == 0) {
                 return;
             }
             next = (next + MOST_STATES - 1) % MOST_STATES;
             size--;
-            System.arraycopy(states, next * SLOTS, slots, 0, SLOTS);
+            System.arraycopy(states, next * SLOTS, sheet.slots, 0, SLOTS);
         }
     }
 

@@ -235,6 +235,11 @@ public final class PromiseTest {
         SheetRefs y = new SheetRefs();
         due("six of an empty sheet", y.comes(0, 0, 6), 0);
         due("a state, though nothing is other", y.told(4), 1);
+        write(y, 0, 0, "C3");
+        due("the first cell would be gone", y.comes(0, 0, 6), NO);
+        due("by columns, too", y.comes(1, 0, 6), NO);
+        due("behind the first cell", y.comes(0, 1, 1), 1);
+        dueShown(y, 0, 0, "C4");
     }
 
     private static void comesRefused() {
@@ -302,6 +307,9 @@ public final class PromiseTest {
         due("one at the end", x.goes(1, 5, 1), 3);
         dueShown(x, 0, 0, "A1+A2+$B$3+#");
         dueShown(x, 1, 3, "A1:B2+A2:B3+A3:B6+B5:$E$6");
+        write(x, 0, 0, "F6");
+        x.goes(0, 1, 1);
+        dueShown(x, 0, 0, "F5");
     }
 
     private static void moves() {
@@ -332,6 +340,19 @@ public final class PromiseTest {
         dueShown(y, 1, 0, "1");
         dueShown(y, 2, 0, "B1+C1+#");
         dueShown(y, 5, 5, "B1:C1+#+#+A1:$C$1");
+        movesBlocks();
+    }
+
+    private static void movesBlocks() {
+        SheetRefs x = new SheetRefs();
+        write(x, 0, 0, "A1:B3+A1:C2+A1:A2+B2:B2");
+        write(x, 1, 1, "C3:D4+C3:D5+C3:E4+B3:D4");
+        write(x, 5, 5, "D4:D4+C2:D4+$D$3+E5");
+        due("wholly, or not", x.moves(0, 0, 2, 2, 2, 2), 3);
+        dueShown(x, 2, 2, "A1:B3+A1:C2+C3:C4+D4:D4");
+        dueShown(x, 3, 3, "#+C3:D5+C3:E4+B3:D4");
+        dueShown(x, 5, 5, "#+C2:D4+#+E5");
+        due("two came and one was there", x.count(0), 3);
     }
 
     private static void movesRefused() {
@@ -368,6 +389,12 @@ public final class PromiseTest {
         dueShown(x, 0, 0, "#+#+#+A1");
         due("broken ones are counted again", x.copies(0, 0, 1, 1, 5, 5), 3);
         dueShown(x, 5, 5, "#+#+#+F6");
+        due("out at the far side", x.copies(5, 5, 1, 1, 5, 5), 3);
+        write(x, 4, 4, "F1+A6+F$6+A1:E6");
+        due("each by one", x.copies(4, 4, 1, 1, 5, 5), 4);
+        write(x, 4, 4, "$F1+A$6+E5+A1:$F$6");
+        due("just within", x.copies(4, 4, 1, 1, 5, 5), 0);
+        dueShown(x, 5, 5, "$F2+B$6+F6+B2:$F$6");
         due("EMPTY ones, too", x.copies(1, 0, 1, 1, 0, 0), 0);
         due("EMPTY then", x.terms(0, 0), 0);
         due("a number stays", write(x, 0, 0, "7+$C$1:B2+$C2:A$1"), 3);
@@ -376,7 +403,7 @@ public final class PromiseTest {
         dueShown(x, 3, 0, "7+$C$1:E2+$C$1:D2");
         due("down", x.copies(0, 0, 1, 1, 0, 3), 0);
         dueShown(x, 0, 3, "7+B$1:$C5+A$1:$C5");
-        due("nobody else's places change", x.users(3, 0), 2);
+        due("nobody else's places change", x.users(3, 0), 3);
         SheetRefs y = new SheetRefs();
         write(y, 0, 0, "A1");
         write(y, 1, 0, "A1");
@@ -466,7 +493,10 @@ public final class PromiseTest {
         write(x, 1, 1, "$F$6");
         x.goes(0, 5, 1);
         dueTerm(x, 1, 1, 0, 3, 0, 0, 0, 0, 0);
+        write(x, 2, 1, "1+2+3+4");
+        write(x, 3, 1, "5");
         int bads = x.told(0);
+        due("a fifth, though a cell is behind", x.term(2, 1, 4, 0), BAD);
         due("no such TERM", x.term(1, 1, 1, 0), BAD);
         due("i below", x.term(1, 1, -1, 0), BAD);
         due("i far", x.term(1, 1, HIGH, 0), BAD);
@@ -476,7 +506,7 @@ public final class PromiseTest {
         due("column", x.term(6, 1, 0, 0), BAD);
         due("row", x.term(1, -1, 0, 0), BAD);
         due("fifth", x.term(1, 1, 4, 0), BAD);
-        due("counted", x.told(0), bads + 9);
+        due("counted", x.told(0), bads + 10);
     }
 
     private static void shown() {
@@ -643,6 +673,11 @@ public final class PromiseTest {
         due("C1", x.users(2, 0), 0);
         due("B1", x.users(1, 0), 1);
         due("D3", x.users(3, 2), 0);
+        due("A3", x.users(0, 2), 0);
+        write(x, 0, 0, "E1:F2");
+        due("left of a block", x.users(3, 0), 0);
+        due("a block of the first cell", x.users(4, 0), 1);
+        due("its end", x.users(5, 1), 2);
         due("column", x.users(6, 0), BAD);
         due("row", x.users(0, -1), BAD);
         due("far", x.users(HIGH, 0), BAD);
