@@ -164,22 +164,28 @@ public final class SheetRefs {
         if (!isPlace(c, r)) {
             return refused(BAD);
         }
-        return values.sumOrFault(cellAt(c, r));
+        int cell = cellAt(c, r);
+        return values.isFaulty(cell) ? FAULT_ANSWER - values.faults[cell] : values.sums[cell];
     }
 
     public int why(int c, int r) {
         if (!isPlace(c, r)) {
             return refused(BAD);
         }
-        int at = values.faultCell(cellAt(c, r));
-        return at == NONE ? NONE : 10 * columnOf(at) + rowOf(at);
+        int cell = cellAt(c, r);
+        if (!values.isFaulty(cell)) {
+            return NONE;
+        }
+        int at = values.faultCells[cell];
+        return 10 * columnOf(at) + rowOf(at);
     }
 
     public int deep(int c, int r) {
         if (!isPlace(c, r)) {
             return refused(BAD);
         }
-        return values.faultDepth(cellAt(c, r));
+        int cell = cellAt(c, r);
+        return values.isFaulty(cell) ? values.faultDepths[cell] : NONE;
     }
 
     public int users(int c, int r) {
@@ -363,7 +369,7 @@ public final class SheetRefs {
 
         /** Where the fault is, after a read() that found one. */
         int fault() {
-            skipBlanks();
+            next();
             return place;
         }
 
@@ -420,15 +426,12 @@ public final class SheetRefs {
             return true;
         }
 
+        /** The byte to come, with the blanks ahead of it passed over. */
         private int next() {
-            skipBlanks();
-            return text.byteAt(place);
-        }
-
-        private void skipBlanks() {
             while (place < text.length && text.byteAt(place) == ' ') {
                 place++;
             }
+            return text.byteAt(place);
         }
 
         private static boolean isFigure(int b) {
@@ -485,7 +488,7 @@ public final class SheetRefs {
         }
 
         static int coordinate(int term, int index) {
-            return (term >> shiftOf(index)) & 7;
+            return (term >> (BODY_AT + 3 * index)) & 7;
         }
 
         static boolean refers(int term) {
@@ -576,12 +579,8 @@ public final class SheetRefs {
         }
 
         private static int with(int term, int index, int x) {
-            int shift = shiftOf(index);
+            int shift = BODY_AT + 3 * index;
             return (term & ~(7 << shift)) | (x << shift);
-        }
-
-        private static int shiftOf(int index) {
-            return BODY_AT + 3 * index;
         }
     }
 
@@ -862,10 +861,10 @@ public final class SheetRefs {
         private static final int GREATEST_SUM = 99999;
 
         private final Sheet sheet;
-        private final int[] faults = new int[CELLS];
-        private final int[] sums = new int[CELLS];
-        private final int[] faultCells = new int[CELLS];
-        private final int[] faultDepths = new int[CELLS];
+        final int[] faults = new int[CELLS];
+        final int[] sums = new int[CELLS];
+        final int[] faultCells = new int[CELLS];
+        final int[] faultDepths = new int[CELLS];
         private final boolean[] asked = new boolean[CELLS];
         private int met;
         private int metAt;
@@ -880,18 +879,6 @@ public final class SheetRefs {
             Arrays.fill(faults, UNKNOWN);
         }
 
-        int sumOrFault(int cell) {
-            return isFaulty(cell) ? FAULT_ANSWER - faults[cell] : sums[cell];
-        }
-
-        int faultCell(int cell) {
-            return isFaulty(cell) ? faultCells[cell] : NONE;
-        }
-
-        int faultDepth(int cell) {
-            return isFaulty(cell) ? faultDepths[cell] : NONE;
-        }
-
         int faultyCells() {
             int faulty = 0;
             for (int cell = 0; cell < CELLS; cell++) {
@@ -902,7 +889,8 @@ public final class SheetRefs {
             return faulty;
         }
 
-        private boolean isFaulty(int cell) {
+        /** Settles the cell: behind it either its fault, or its sum, can be read. */
+        boolean isFaulty(int cell) {
             if (faults[cell] == UNKNOWN) {
                 met = FINE;
                 ask(cell, 0);
@@ -949,12 +937,11 @@ public final class SheetRefs {
                 return before;
             }
             int sum = before;
-            for (int r = Term.least(term, ROWS); r <= Term.greatest(term, ROWS); r++) {
-                for (int c = Term.least(term, COLUMNS); c <= Term.greatest(term, COLUMNS); c++) {
+            int lastRow = Term.greatest(term, ROWS);
+            int lastColumn = Term.greatest(term, COLUMNS);
+            for (int r = Term.least(term, ROWS); r <= lastRow && met == FINE; r++) {
+                for (int c = Term.least(term, COLUMNS); c <= lastColumn && met == FINE; c++) {
                     int sumThere = isPlace(c, r) ? ask(cellAt(c, r), depth + 1) : 0;
-                    if (met != FINE) {
-                        return sum;
-                    }
                     sum = add(sum, sumThere, cell, depth);
                 }
             }
@@ -968,10 +955,13 @@ public final class SheetRefs {
             return sum + more;
         }
 
+        /** The first fault is the one that counts. */
         private void meet(int fault, int at, int depth) {
-            met = fault;
-            metAt = at;
-            metDepth = depth;
+            if (met == FINE) {
+                met = fault;
+                metAt = at;
+                metDepth = depth;
+            }
         }
     }
 

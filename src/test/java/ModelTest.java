@@ -33,19 +33,31 @@ public final class ModelTest {
         private final SheetRefs sheet = new SheetRefs();
         private final Model model = new Model();
         private final List<String> calls = new ArrayList<>();
+        /** How many columns and rows most formulas are put into: a full sheet leaves no room for more. */
+        private final int filled;
+        /** Formulas refer to the rows above alone then: fewer rings, and sums that grow. */
+        private final boolean layered;
+        private int rows = 6;
         private boolean agrees = true;
 
         Run(int number) {
             this.number = number;
+            this.filled = 1 + number % 6;
+            this.layered = number % 5 < 2;
             this.random = new Random(number);
         }
 
         boolean agrees() {
+            if (layered) {
+                fillRow(0, "999+" + random.nextInt(1000));
+                fillRow(1, "A1:F1+A1:C$1");
+                fillRow(2, random.nextBoolean() ? "$A2:E2" : "A1:F2+A2");
+            }
             while (agrees && calls.size() < CALLS) {
                 int kind = random.nextInt(20);
                 if (kind < 7) {
                     writeFormula();
-                } else if (kind < 12) {
+                } else if (kind < (layered ? 9 : 12)) {
                     change();
                 } else {
                     look();
@@ -57,30 +69,45 @@ public final class ModelTest {
             return agrees;
         }
 
-        private void writeFormula() {
-            String text = random.nextInt(6) == 0 ? spoiled(formula()) : formula();
-            if (random.nextInt(12) > 0) {
-                see("clear()", sheet.clear(), model.clear());
+        private void fillRow(int r, String text) {
+            writeText(text);
+            for (int c = 0; c < 6 && agrees; c++) {
+                see("put(" + c + ", " + r + ")", sheet.put(c, r), model.put(c, r));
             }
+            see("clear()", sheet.clear(), model.clear());
+        }
+
+        private void writeText(String text) {
             for (int i = 0; i < text.length() && agrees; i++) {
                 int b = text.charAt(i);
                 see("type(" + b + ")", sheet.type(b), model.type(b));
             }
-            int times = 1 + random.nextInt(3);
+        }
+
+        private void writeFormula() {
+            int base = layered ? random.nextInt(6) : 6;
+            rows = Math.max(1, base);
+            String text = random.nextInt(6) == 0 ? spoiled(formula()) : formula();
+            if (random.nextInt(12) > 0) {
+                see("clear()", sheet.clear(), model.clear());
+            }
+            writeText(text);
+            int times = 1 + random.nextInt(layered ? 6 : 3);
             for (int i = 0; i < times && agrees; i++) {
-                int c = line();
-                int r = line();
+                int c = layered || random.nextInt(3) == 0 ? line() : random.nextInt(filled);
+                int r = random.nextInt(3) == 0 ? line() : random.nextInt(filled);
+                r = layered && random.nextInt(20) > 0 ? base : r;
                 see("put(" + c + ", " + r + ")", sheet.put(c, r), model.put(c, r));
             }
         }
 
         private void change() {
-            int c = line();
-            int r = line();
             int w = length();
             int h = length();
-            int p = line();
-            int q = line();
+            int c = start(w);
+            int r = start(h);
+            int p = start(w);
+            int q = start(h);
             int way = random.nextInt(30) == 0 ? wild() : random.nextInt(2);
             String area = "(" + c + ", " + r + ", " + w + ", " + h + ", " + p + ", " + q + ")";
             String lines = "(" + way + ", " + c + ", " + w + ")";
@@ -164,6 +191,12 @@ public final class ModelTest {
             return random.nextInt(60) == 0 ? wild() : random.nextInt(6);
         }
 
+        /** Mostly such that so many lines from it on lie within the sheet. */
+        private int start(int length) {
+            boolean loose = length < 1 || length > 6 || random.nextInt(20) == 0;
+            return loose ? line() : random.nextInt(7 - length);
+        }
+
         private int length() {
             int most = random.nextInt(4) == 0 ? 6 : 3;
             return random.nextInt(40) == 0 ? wild() : 1 + random.nextInt(most);
@@ -197,14 +230,14 @@ public final class ModelTest {
                 return "" + random.nextInt(kind == 0 ? 1100 : 1000);
             }
             if (kind < 7) {
-                return "#";
+                return layered && random.nextInt(4) > 0 ? "999" : "#";
             }
             return kind < 14 ? place() : place() + ":" + place();
         }
 
         private String place() {
             return dollar() + (char) ((random.nextInt(4) == 0 ? 'a' : 'A') + random.nextInt(6))
-                + dollar() + (1 + random.nextInt(6));
+                + dollar() + (1 + random.nextInt(rows));
         }
 
         private String dollar() {

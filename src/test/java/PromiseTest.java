@@ -637,6 +637,13 @@ public final class PromiseTest {
         dueFaultOf(z, 5, 5, 3, 55, 0);
         write(z, 5, 5, "A4:B4+1");
         dueFaultOf(z, 5, 5, 1, 13, 1);
+        write(z, 1, 3, "1");
+        write(z, 2, 3, "A4:C4");
+        write(z, 5, 5, "C4");
+        dueFaultOf(z, 2, 3, 3, 23, 0);
+        dueFaultOf(z, 5, 5, 3, 23, 1);
+        write(z, 1, 3, "0");
+        dueFaultOf(z, 2, 3, 2, 23, 0);
     }
 
     /** A chain through all cells, each asking its next one four times by blocks. */
@@ -687,7 +694,7 @@ public final class PromiseTest {
     private static void count() {
         promise = "18 count";
         SheetRefs x = new SheetRefs();
-        write(x, 0, 0, "1+#+#");
+        write(x, 0, 0, "#+1+#");
         write(x, 1, 0, "A1+2");
         write(x, 2, 0, "C1");
         write(x, 3, 0, "7+8+9+A6");
