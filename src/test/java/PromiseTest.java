@@ -1,10 +1,7 @@
 /** Each promise of the document: ordinary inputs, the edges that it names, wrong inputs. */
 public final class PromiseTest {
-    private static final int BAD = -2, NO = -3, FULL = -4, NONE = -1;
-    private static final int LOW = Integer.MIN_VALUE, HIGH = Integer.MAX_VALUE;
-
-    private static int wrong = 0;
-    private static String promise = "";
+    private static final int BAD = Due.BAD, NO = Due.NO, FULL = Due.FULL, NONE = Due.NONE;
+    private static final int LOW = Due.LOW, HIGH = Due.HIGH;
 
     public static void main(String[] args) {
         newObject();
@@ -32,15 +29,12 @@ public final class PromiseTest {
         count();
         told();
         digest();
-        System.out.println(wrong == 0 ? "all promises hold" : wrong + " answers are not as due");
-        if (wrong != 0) {
-            System.exit(1);
-        }
+        Due.end();
     }
 
     private static void newObject() {
-        promise = "1 new object";
-        SheetRefs x = new SheetRefs();
+        Due.sentence("1 new object");
+        Probe x = new Probe();
         for (int what = 0; what <= 4; what++) {
             due("told " + what, x.told(what), 0);
         }
@@ -59,8 +53,8 @@ public final class PromiseTest {
     }
 
     private static void type() {
-        promise = "2 type";
-        SheetRefs x = new SheetRefs();
+        Due.sentence("2 type");
+        Probe x = new Probe();
         due("least byte", x.type(0), 1);
         due("greatest byte", x.type(127), 2);
         due("below", x.type(-1), BAD);
@@ -79,10 +73,10 @@ public final class PromiseTest {
     }
 
     private static void clear() {
-        promise = "3 clear";
-        SheetRefs x = new SheetRefs();
+        Due.sentence("3 clear");
+        Probe x = new Probe();
         due("of an empty text", x.clear(), 0);
-        types(x, "A1+B2");
+        x.types("A1+B2");
         due("how many it had", x.clear(), 5);
         due("empty then", x.told(3), 0);
         due("again", x.clear(), 0);
@@ -93,15 +87,15 @@ public final class PromiseTest {
     }
 
     private static void put() {
-        promise = "4 put";
-        SheetRefs x = new SheetRefs();
-        due("terms", write(x, 0, 0, "A2+$B$3+5+#"), 4);
+        Due.sentence("4 put");
+        Probe x = new Probe();
+        due("terms", x.write(0, 0, "A2+$B$3+5+#"), 4);
         dueShown(x, 0, 0, "A2+$B$3+5+#");
         due("the text stays", x.told(3), 11);
         due("put once more", x.put(5, 5), 4);
         dueShown(x, 5, 5, "A2+$B$3+5+#");
         due("a state each", x.told(4), 2);
-        due("written over", write(x, 0, 0, "7"), 1);
+        due("written over", x.write(0, 0, "7"), 1);
         dueShown(x, 0, 0, "7");
         dueRead(x, "  a2 + f $ 6 ", "A2+F$6");
         dueRead(x, "$ e $ 4 : $f 5", "$E$4:$F5");
@@ -117,13 +111,13 @@ public final class PromiseTest {
         due("far out", x.put(LOW, HIGH), BAD);
         due("counted", x.told(0), 5);
         due("no states", x.told(4), states);
-        types(x, "+");
+        x.types("+");
         due("BAD ahead of the fault", x.put(9, 9), BAD);
     }
 
     private static void putBlocks() {
-        promise = "4 put, blocks told otherwise";
-        SheetRefs x = new SheetRefs();
+        Due.sentence("4 put, blocks told otherwise");
+        Probe x = new Probe();
         dueRead(x, "C$2:A1", "A1:C$2");
         dueRead(x, "B2:$A$3", "$A2:B$3");
         dueRead(x, "$A3:B$2", "$A$2:B3");
@@ -135,10 +129,10 @@ public final class PromiseTest {
     }
 
     private static void putFaults() {
-        promise = "4 put, faults";
-        SheetRefs x = new SheetRefs();
-        write(x, 1, 1, "5");
-        long before = sheetDigest(x);
+        Due.sentence("4 put, faults");
+        Probe x = new Probe();
+        x.write(1, 1, "5");
+        long before = x.cellsDigest();
         dueFault(x, "", 0);
         dueFault(x, "   ", 3);
         dueFault(x, "+", 0);
@@ -187,16 +181,16 @@ public final class PromiseTest {
         dueFault(x, "1" + (char) 127, 1);
         due("nothing counts", x.told(0) + x.told(1) + x.told(2), 0);
         due("no state", x.told(4), 1);
-        due("all stays", sheetDigest(x), before);
+        due("all stays", x.cellsDigest(), before);
         x.clear();
-        types(x, " ".repeat(60));
+        x.types(" ".repeat(60));
         due("60 blanks", x.put(0, 0), -70);
     }
 
     private static void empties() {
-        promise = "5 empties";
-        SheetRefs x = new SheetRefs();
-        write(x, 2, 3, "1+2+A1");
+        Due.sentence("5 empties");
+        Probe x = new Probe();
+        x.write(2, 3, "1+2+A1");
         due("terms it had", x.empties(2, 3), 3);
         due("EMPTY then", x.terms(2, 3), 0);
         due("EMPTY ahead", x.empties(2, 3), 0);
@@ -212,10 +206,10 @@ public final class PromiseTest {
     }
 
     private static void comes() {
-        promise = "6 comes";
-        SheetRefs x = new SheetRefs();
-        write(x, 0, 0, "A1+A2+$B$3+F6");
-        write(x, 1, 2, "A1:B2+A3:B4+A6:A6+A2:C$6");
+        Due.sentence("6 comes");
+        Probe x = new Probe();
+        x.write(0, 0, "A1+A2+$B$3+F6");
+        x.write(1, 2, "A1:B2+A3:B4+A6:A6+A2:C$6");
         due("rows", x.comes(0, 1, 1), 2);
         dueShown(x, 0, 0, "A1+A3+$B$4+#");
         dueShown(x, 1, 3, "A1:B3+A4:B5+#+A3:C$6");
@@ -232,10 +226,10 @@ public final class PromiseTest {
         due("ahead of the last, more than are left", x.comes(0, 5, 6), 2);
         dueShown(x, 0, 0, "A1+A2+$B$3+#");
         dueShown(x, 1, 2, "A1:B2+A3:B4+#+A2:C$6");
-        SheetRefs y = new SheetRefs();
+        Probe y = new Probe();
         due("six of an empty sheet", y.comes(0, 0, 6), 0);
         due("a state, though nothing is other", y.told(4), 1);
-        write(y, 0, 0, "C3");
+        y.write(0, 0, "C3");
         due("the first cell would be gone", y.comes(0, 0, 6), NO);
         due("by columns, too", y.comes(1, 0, 6), NO);
         due("behind the first cell", y.comes(0, 1, 1), 1);
@@ -243,9 +237,9 @@ public final class PromiseTest {
     }
 
     private static void comesRefused() {
-        promise = "6 comes, refused";
-        SheetRefs x = new SheetRefs();
-        write(x, 1, 2, "B3");
+        Due.sentence("6 comes, refused");
+        Probe x = new Probe();
+        x.write(1, 2, "B3");
         due("gone by rows", x.comes(0, 2, 4), NO);
         due("gone by rows ahead", x.comes(0, 0, 6), NO);
         due("gone by columns", x.comes(1, 1, 5), NO);
@@ -269,11 +263,11 @@ public final class PromiseTest {
     }
 
     private static void goes() {
-        promise = "7 goes";
-        SheetRefs x = new SheetRefs();
-        write(x, 0, 0, "A1+A2+$B$3+F6");
-        write(x, 1, 3, "A1:B2+A2:B3+A3:B6+B5:$F$6");
-        write(x, 2, 1, "5");
+        Due.sentence("7 goes");
+        Probe x = new Probe();
+        x.write(0, 0, "A1+A2+$B$3+F6");
+        x.write(1, 3, "A1:B2+A2:B3+A3:B6+B5:$F$6");
+        x.write(2, 1, "5");
         due("rows", x.goes(0, 1, 2), 2);
         dueShown(x, 0, 0, "A1+#+#+F4");
         dueShown(x, 1, 1, "A1:B1+#+A2:B4+B3:$F$4");
@@ -307,17 +301,17 @@ public final class PromiseTest {
         due("one at the end", x.goes(1, 5, 1), 3);
         dueShown(x, 0, 0, "A1+A2+$B$3+#");
         dueShown(x, 1, 3, "A1:B2+A2:B3+A3:B6+B5:$E$6");
-        write(x, 0, 0, "F6");
+        x.write(0, 0, "F6");
         x.goes(0, 1, 1);
         dueShown(x, 0, 0, "F5");
     }
 
     private static void moves() {
-        promise = "8 moves";
-        SheetRefs x = new SheetRefs();
-        write(x, 0, 0, "B2+$B$2+D4+#");
-        write(x, 1, 1, "B2:C3+B2:D3+D4:E5+D4:$F$6");
-        write(x, 3, 3, "#+D4+1");
+        Due.sentence("8 moves");
+        Probe x = new Probe();
+        x.write(0, 0, "B2+$B$2+D4+#");
+        x.write(1, 1, "B2:C3+B2:D3+D4:E5+D4:$F$6");
+        x.write(3, 3, "#+D4+1");
         due("broken by it", x.moves(1, 1, 2, 2, 3, 3), 2);
         dueShown(x, 0, 0, "D4+$D$4+#+#");
         dueShown(x, 3, 3, "D4:E5+B2:D3+#+D4:$F$6");
@@ -330,11 +324,11 @@ public final class PromiseTest {
         due("the target is EMPTY then", x.terms(3, 3), 0);
         dueShown(x, 0, 0, "B2+$B$2+#+#");
         dueShown(x, 1, 1, "B2:C3+B2:D3+D4:E5+D4:$F$6");
-        SheetRefs y = new SheetRefs();
-        write(y, 0, 0, "1");
-        write(y, 1, 0, "A1+B1+C1");
-        write(y, 2, 0, "#");
-        write(y, 5, 5, "A1:B1+B1:C1+C1:C1+A1:$C$1");
+        Probe y = new Probe();
+        y.write(0, 0, "1");
+        y.write(1, 0, "A1+B1+C1");
+        y.write(2, 0, "#");
+        y.write(5, 5, "A1:B1+B1:C1+C1:C1+A1:$C$1");
         due("in one another", y.moves(0, 0, 2, 1, 1, 0), 3);
         due("left behind", y.terms(0, 0), 0);
         dueShown(y, 1, 0, "1");
@@ -344,10 +338,10 @@ public final class PromiseTest {
     }
 
     private static void movesBlocks() {
-        SheetRefs x = new SheetRefs();
-        write(x, 0, 0, "A1:B3+A1:C2+A1:A2+B2:B2");
-        write(x, 1, 1, "C3:D4+C3:D5+C3:E4+B3:D4");
-        write(x, 5, 5, "D4:D4+C2:D4+$D$3+E5");
+        Probe x = new Probe();
+        x.write(0, 0, "A1:B3+A1:C2+A1:A2+B2:B2");
+        x.write(1, 1, "C3:D4+C3:D5+C3:E4+B3:D4");
+        x.write(5, 5, "D4:D4+C2:D4+$D$3+E5");
         due("wholly, or not", x.moves(0, 0, 2, 2, 2, 2), 3);
         dueShown(x, 2, 2, "A1:B3+A1:C2+C3:C4+D4:D4");
         dueShown(x, 3, 3, "#+C3:D5+C3:E4+B3:D4");
@@ -356,9 +350,9 @@ public final class PromiseTest {
     }
 
     private static void movesRefused() {
-        promise = "8 moves, refused";
-        SheetRefs x = new SheetRefs();
-        write(x, 5, 5, "F6+A1");
+        Due.sentence("8 moves, refused");
+        Probe x = new Probe();
+        x.write(5, 5, "F6+A1");
         due("source wide", x.moves(5, 0, 2, 1, 0, 0), BAD);
         due("source high", x.moves(0, 5, 1, 2, 0, 0), BAD);
         due("target wide", x.moves(0, 0, 2, 1, 5, 0), BAD);
@@ -379,9 +373,9 @@ public final class PromiseTest {
     }
 
     private static void copies() {
-        promise = "9 copies";
-        SheetRefs x = new SheetRefs();
-        write(x, 2, 2, "$A1+A$1+$A$1:B2+C3");
+        Due.sentence("9 copies");
+        Probe x = new Probe();
+        x.write(2, 2, "$A1+A$1+$A$1:B2+C3");
         due("none broken", x.copies(2, 2, 1, 1, 3, 4), 0);
         dueShown(x, 3, 4, "$A3+B$1+$A$1:C4+D5");
         dueShown(x, 2, 2, "$A1+A$1+$A$1:B2+C3");
@@ -390,24 +384,24 @@ public final class PromiseTest {
         due("broken ones are counted again", x.copies(0, 0, 1, 1, 5, 5), 3);
         dueShown(x, 5, 5, "#+#+#+F6");
         due("out at the far side", x.copies(5, 5, 1, 1, 5, 5), 3);
-        write(x, 4, 4, "F1+A6+F$6+A1:E6");
+        x.write(4, 4, "F1+A6+F$6+A1:E6");
         due("each by one", x.copies(4, 4, 1, 1, 5, 5), 4);
-        write(x, 4, 4, "$F1+A$6+E5+A1:$F$6");
+        x.write(4, 4, "$F1+A$6+E5+A1:$F$6");
         due("just within", x.copies(4, 4, 1, 1, 5, 5), 0);
         dueShown(x, 5, 5, "$F2+B$6+F6+B2:$F$6");
         due("EMPTY ones, too", x.copies(1, 0, 1, 1, 0, 0), 0);
         due("EMPTY then", x.terms(0, 0), 0);
-        due("a number stays", write(x, 0, 0, "7+$C$1:B2+$C2:A$1"), 3);
+        due("a number stays", x.write(0, 0, "7+$C$1:B2+$C2:A$1"), 3);
         dueShown(x, 0, 0, "7+B$1:$C2+A$1:$C2");
         due("to the right", x.copies(0, 0, 1, 1, 3, 0), 0);
         dueShown(x, 3, 0, "7+$C$1:E2+$C$1:D2");
         due("down", x.copies(0, 0, 1, 1, 0, 3), 0);
         dueShown(x, 0, 3, "7+B$1:$C5+A$1:$C5");
         due("nobody else's places change", x.users(3, 0), 3);
-        SheetRefs y = new SheetRefs();
-        write(y, 0, 0, "A1");
-        write(y, 1, 0, "A1");
-        write(y, 2, 0, "5");
+        Probe y = new Probe();
+        y.write(0, 0, "A1");
+        y.write(1, 0, "A1");
+        y.write(2, 0, "5");
         due("as they were ahead", y.copies(0, 0, 3, 1, 1, 0), 0);
         dueShown(y, 0, 0, "A1");
         dueShown(y, 1, 0, "B1");
@@ -429,24 +423,24 @@ public final class PromiseTest {
     }
 
     private static void back() {
-        promise = "10 back";
-        SheetRefs x = new SheetRefs();
+        Due.sentence("10 back");
+        Probe x = new Probe();
         due("none", x.back(), NO);
         due("counted", x.told(1), 1);
         long[] seen = new long[10];
         for (int i = 0; i < 10; i++) {
-            seen[i] = sheetDigest(x);
-            write(x, i % 6, i / 6, "A1:B2+" + i);
+            seen[i] = x.cellsDigest();
+            x.write(i % 6, i / 6, "A1:B2+" + i);
         }
         due("six at most", x.told(4), 6);
         for (int i = 9; i >= 4; i--) {
             due("back", x.back(), i - 4);
-            due("just as it was", sheetDigest(x), seen[i]);
+            due("just as it was", x.cellsDigest(), seen[i]);
         }
         due("older ones are lost", x.back(), NO);
-        due("nothing changed", sheetDigest(x), seen[4]);
+        due("nothing changed", x.cellsDigest(), seen[4]);
         due("the text stays", x.told(3), 7);
-        write(x, 5, 5, "C3");
+        x.write(5, 5, "C3");
         x.comes(0, 0, 0);
         x.comes(0, 0, 6);
         due("refused ones leave none", x.told(4), 1);
@@ -457,14 +451,14 @@ public final class PromiseTest {
     }
 
     private static void terms() {
-        promise = "11 terms";
-        SheetRefs x = new SheetRefs();
-        write(x, 5, 0, "1+2+3+4");
-        write(x, 0, 5, "A1");
+        Due.sentence("11 terms");
+        Probe x = new Probe();
+        x.write(5, 0, "1+2+3+4");
+        x.write(0, 5, "A1");
         due("four", x.terms(5, 0), 4);
         due("one", x.terms(0, 5), 1);
         due("none", x.terms(0, 0), 0);
-        write(x, 5, 0, "1+2");
+        x.write(5, 0, "1+2");
         due("two", x.terms(5, 0), 2);
         due("column", x.terms(-1, 0), BAD);
         due("column above", x.terms(6, 0), BAD);
@@ -474,27 +468,27 @@ public final class PromiseTest {
     }
 
     private static void term() {
-        promise = "12 term";
-        SheetRefs x = new SheetRefs();
-        write(x, 4, 3, "999+$C$5+$B1:F$6+#");
+        Due.sentence("12 term");
+        Probe x = new Probe();
+        x.write(4, 3, "999+$C$5+$B1:F$6+#");
         dueTerm(x, 4, 3, 0, 0, 999, 0, 0, 0, 0);
         dueTerm(x, 4, 3, 1, 1, 2, 4, 0, 0, 3);
         dueTerm(x, 4, 3, 2, 2, 1, 0, 5, 5, 9);
         dueTerm(x, 4, 3, 3, 3, 0, 0, 0, 0, 0);
-        write(x, 0, 0, "0+$A1+A$1+A$1:$A1");
+        x.write(0, 0, "0+$A1+A$1+A$1:$A1");
         dueTerm(x, 0, 0, 0, 0, 0, 0, 0, 0, 0);
         dueTerm(x, 0, 0, 1, 1, 0, 0, 0, 0, 1);
         dueTerm(x, 0, 0, 2, 1, 0, 0, 0, 0, 2);
         dueTerm(x, 0, 0, 3, 2, 0, 0, 0, 0, 6);
         x.goes(0, 0, 1);
-        write(x, 0, 0, "$F$6:$E$5");
+        x.write(0, 0, "$F$6:$E$5");
         dueTerm(x, 0, 0, 0, 2, 4, 4, 5, 5, 15);
         x.moves(0, 5, 6, 1, 0, 0);
-        write(x, 1, 1, "$F$6");
+        x.write(1, 1, "$F$6");
         x.goes(0, 5, 1);
         dueTerm(x, 1, 1, 0, 3, 0, 0, 0, 0, 0);
-        write(x, 2, 1, "1+2+3+4");
-        write(x, 3, 1, "5");
+        x.write(2, 1, "1+2+3+4");
+        x.write(3, 1, "5");
         int bads = x.told(0);
         due("a fifth, though a cell is behind", x.term(2, 1, 4, 0), BAD);
         due("no such TERM", x.term(1, 1, 1, 0), BAD);
@@ -510,17 +504,17 @@ public final class PromiseTest {
     }
 
     private static void shown() {
-        promise = "13 shown";
-        SheetRefs x = new SheetRefs();
+        Due.sentence("13 shown");
+        Probe x = new Probe();
         String longest = "$A$1:$F$6+$B$2:$C$3+$A$1:$F$6+$B$2:$C$3";
-        write(x, 3, 2, longest);
+        x.write(3, 2, longest);
         dueShown(x, 3, 2, longest);
         due("behind the last", x.shown(3, 2, 39), NONE);
         due("far behind", x.shown(3, 2, HIGH), NONE);
         due("EMPTY", x.shown(0, 0, 0), NONE);
-        write(x, 0, 0, "0+9+10+100");
+        x.write(0, 0, "0+9+10+100");
         dueShown(x, 0, 0, "0+9+10+100");
-        write(x, 0, 0, "99+101+010+a$2");
+        x.write(0, 0, "99+101+010+a$2");
         dueShown(x, 0, 0, "99+101+10+A$2");
         int bads = x.told(0);
         due("k below", x.shown(0, 0, -1), BAD);
@@ -531,16 +525,16 @@ public final class PromiseTest {
     }
 
     private static void value() {
-        promise = "14 value";
-        SheetRefs x = new SheetRefs();
-        write(x, 0, 0, "1+2+3+994");
-        write(x, 1, 0, "A1+A1");
-        write(x, 2, 0, "A1:B1+A1:B2+F6+5");
+        Due.sentence("14 value");
+        Probe x = new Probe();
+        x.write(0, 0, "1+2+3+994");
+        x.write(1, 0, "A1+A1");
+        x.write(2, 0, "A1:B1+A1:B2+F6+5");
         due("numbers", x.value(0, 0), 1000);
         due("places", x.value(1, 0), 2000);
         due("blocks", x.value(2, 0), 6005);
         due("EMPTY", x.value(3, 3), 0);
-        write(x, 0, 0, "0");
+        x.write(0, 0, "0");
         due("followed by all", x.value(2, 0), 5);
         x.back();
         due("and back", x.value(2, 0), 6005);
@@ -548,57 +542,57 @@ public final class PromiseTest {
         due("row", x.value(0, -1), BAD);
         due("far", x.value(LOW, LOW), BAD);
         due("counted", x.told(0), 3);
-        SheetRefs y = greatSums();
+        Probe y = greatSums();
         due("just 99999", y.value(0, 3), 99999);
-        write(y, 0, 4, "A4");
+        y.write(0, 4, "A4");
         due("just 99999 by a place", y.value(0, 4), 99999);
-        write(y, 0, 4, "A4+1");
+        y.write(0, 4, "A4+1");
         due("above", y.value(0, 4), -13);
-        write(y, 0, 4, "1+A4+#");
+        y.write(0, 4, "1+A4+#");
         due("above ahead of broken", y.value(0, 4), -13);
-        write(y, 0, 4, "#+A4+1");
+        y.write(0, 4, "#+A4+1");
         due("broken ahead of above", y.value(0, 4), -11);
     }
 
     /** A4 is 99999 there, from cells of row 1 to 3. */
-    private static SheetRefs greatSums() {
-        SheetRefs x = new SheetRefs();
-        write(x, 0, 0, "999+999+2");
-        write(x, 1, 0, "A1+A1+A1+A1");
-        write(x, 2, 0, "B1+B1+B1+B1");
-        write(x, 3, 0, "C1+C1+C1");
+    private static Probe greatSums() {
+        Probe x = new Probe();
+        x.write(0, 0, "999+999+2");
+        x.write(1, 0, "A1+A1+A1+A1");
+        x.write(2, 0, "B1+B1+B1+B1");
+        x.write(3, 0, "C1+C1+C1");
         due("96000", x.value(3, 0), 96000);
-        write(x, 0, 1, "A1+A1");
-        write(x, 0, 3, "D1+A1+999+A3");
-        write(x, 0, 2, "999+1");
+        x.write(0, 1, "A1+A1");
+        x.write(0, 3, "D1+A1+999+A3");
+        x.write(0, 2, "999+1");
         due("99999 yet to come", x.value(0, 3), 99999);
         return x;
     }
 
     private static void faults() {
-        promise = "15 why, 16 deep";
-        SheetRefs x = new SheetRefs();
-        write(x, 4, 5, "1+#");
-        write(x, 3, 2, "E6");
-        write(x, 2, 2, "1+D3");
+        Due.sentence("15 why, 16 deep");
+        Probe x = new Probe();
+        x.write(4, 5, "1+#");
+        x.write(3, 2, "E6");
+        x.write(2, 2, "1+D3");
         dueFaultOf(x, 4, 5, 1, 45, 0);
         dueFaultOf(x, 3, 2, 1, 45, 1);
         dueFaultOf(x, 2, 2, 1, 45, 2);
         dueFaultOf(x, 0, 0, 0, NONE, NONE);
-        SheetRefs y = new SheetRefs();
-        write(y, 0, 1, "B2");
-        write(y, 1, 1, "C2");
-        write(y, 2, 1, "B2");
+        Probe y = new Probe();
+        y.write(0, 1, "B2");
+        y.write(1, 1, "C2");
+        y.write(2, 1, "B2");
         dueFaultOf(y, 0, 1, 2, 11, 2);
         dueFaultOf(y, 1, 1, 2, 11, 1);
         dueFaultOf(y, 2, 1, 2, 21, 1);
-        write(y, 5, 5, "F6");
+        y.write(5, 5, "F6");
         dueFaultOf(y, 5, 5, 2, 55, 0);
-        write(y, 4, 4, "E4:F6");
+        y.write(4, 4, "E4:F6");
         dueFaultOf(y, 4, 4, 2, 44, 0);
-        SheetRefs z = greatSums();
-        write(z, 5, 5, "A4+A1");
-        write(z, 5, 4, "A1+F6");
+        Probe z = greatSums();
+        z.write(5, 5, "A4+A1");
+        z.write(5, 4, "A1+F6");
         dueFaultOf(z, 5, 5, 3, 55, 0);
         dueFaultOf(z, 5, 4, 3, 55, 1);
         dueFaultOf(z, 0, 3, 0, NONE, NONE);
@@ -611,68 +605,73 @@ public final class PromiseTest {
     }
 
     private static void faultOrder() {
-        promise = "14 to 16, the first fault that is met";
-        SheetRefs x = new SheetRefs();
-        write(x, 0, 0, "B1+#");
-        write(x, 1, 0, "A1");
+        Due.sentence("14 to 16, the first fault that is met");
+        Probe x = new Probe();
+        x.write(0, 0, "B1+#");
+        x.write(1, 0, "A1");
         dueFaultOf(x, 0, 0, 2, 0, 1);
         dueFaultOf(x, 1, 0, 2, 10, 1);
-        write(x, 0, 0, "#+B1");
+        x.write(0, 0, "#+B1");
         dueFaultOf(x, 0, 0, 1, 0, 0);
         dueFaultOf(x, 1, 0, 1, 0, 1);
-        SheetRefs y = new SheetRefs();
-        write(y, 1, 1, "#");
-        write(y, 2, 0, "C1");
-        write(y, 0, 1, "B2+1");
-        write(y, 5, 5, "A1:C2");
-        write(y, 5, 4, "C2:A1");
+        Probe y = new Probe();
+        y.write(1, 1, "#");
+        y.write(2, 0, "C1");
+        y.write(0, 1, "B2+1");
+        y.write(5, 5, "A1:C2");
+        y.write(5, 4, "C2:A1");
         dueFaultOf(y, 5, 5, 2, 20, 1);
         y.empties(2, 0);
         dueFaultOf(y, 5, 4, 1, 11, 2);
         y.empties(0, 1);
         dueFaultOf(y, 5, 4, 1, 11, 1);
-        SheetRefs z = greatSums();
-        write(z, 1, 3, "#");
-        write(z, 5, 5, "1+A4:B4");
+        Probe z = greatSums();
+        z.write(1, 3, "#");
+        z.write(5, 5, "1+A4:B4");
         dueFaultOf(z, 5, 5, 3, 55, 0);
-        write(z, 5, 5, "A4:B4+1");
+        z.write(5, 5, "A4:B4+1");
         dueFaultOf(z, 5, 5, 1, 13, 1);
-        write(z, 1, 3, "1");
-        write(z, 2, 3, "A4:C4");
-        write(z, 5, 5, "C4");
+        z.write(1, 3, "1");
+        z.write(2, 3, "A4:C4");
+        z.write(5, 5, "C4");
         dueFaultOf(z, 2, 3, 3, 23, 0);
         dueFaultOf(z, 5, 5, 3, 23, 1);
-        write(z, 1, 3, "0");
+        z.write(1, 3, "0");
         dueFaultOf(z, 2, 3, 2, 23, 0);
     }
 
-    /** A chain through all cells, each asking its next one four times by blocks. */
+    /** A chain through all cells, each asking its next one three times. */
     private static void longAsking() {
-        promise = "14 to 16, a chain through all cells";
-        SheetRefs x = new SheetRefs();
-        for (int cell = 0; cell < 35; cell++) {
-            String next = "" + (char) ('A' + (cell + 1) % 6) + (char) ('1' + (cell + 1) / 6);
-            write(x, cell % 6, cell / 6, next + ":" + next + "+" + next + "+0+" + next);
+        Due.sentence("14 to 16, a chain through all cells");
+        Probe x = new Probe();
+        x.write(0, 0, "B1:B1+B1+0+B1");
+        x.copies(0, 0, 1, 1, 1, 0);
+        x.copies(0, 0, 2, 1, 2, 0);
+        x.copies(3, 0, 1, 1, 4, 0);
+        x.write(5, 0, "A2:A2+A2+0+A2");
+        for (int r = 1; r < 6; r++) {
+            x.copies(0, 0, 6, 1, 0, r);
         }
+        x.empties(5, 5);
         due("all 0", x.value(0, 0), 0);
-        write(x, 5, 5, "#");
+        x.write(5, 5, "#");
         dueFaultOf(x, 0, 0, 1, 55, 35);
-        write(x, 5, 5, "A1");
+        x.write(5, 5, "A1");
         dueFaultOf(x, 0, 0, 2, 0, 35);
         dueFaultOf(x, 3, 0, 2, 30, 35);
-        write(x, 5, 5, "F6");
+        x.write(5, 5, "F6");
         dueFaultOf(x, 0, 0, 2, 55, 35);
-        write(x, 5, 5, "1");
+        x.write(5, 5, "1");
         dueFaultOf(x, 0, 0, 3, 4, 24);
         due("3 to the tenth", x.value(1, 4), 59049);
         due("cells with a fault", x.count(3), 25);
     }
 
     private static void users() {
-        promise = "17 users";
-        SheetRefs x = new SheetRefs();
-        write(x, 0, 0, "A1+$A$1+A1:B2+5");
-        write(x, 1, 1, "B2:C3+A2:F2+#+B2");
+        Due.sentence("17 users");
+        Probe x = new Probe();
+        x.write(0, 0, "A1+$A$1+A1:B2+5");
+        x.write(1, 1, "B2:C3+A2:F2+#+B2");
         due("A1", x.users(0, 0), 3);
         due("B2", x.users(1, 1), 4);
         due("C3", x.users(2, 2), 1);
@@ -681,7 +680,7 @@ public final class PromiseTest {
         due("B1", x.users(1, 0), 1);
         due("D3", x.users(3, 2), 0);
         due("A3", x.users(0, 2), 0);
-        write(x, 0, 0, "E1:F2");
+        x.write(0, 0, "E1:F2");
         due("left of a block", x.users(3, 0), 0);
         due("a block of the first cell", x.users(4, 0), 1);
         due("its end", x.users(5, 1), 2);
@@ -692,12 +691,12 @@ public final class PromiseTest {
     }
 
     private static void count() {
-        promise = "18 count";
-        SheetRefs x = new SheetRefs();
-        write(x, 0, 0, "#+1+#");
-        write(x, 1, 0, "A1+2");
-        write(x, 2, 0, "C1");
-        write(x, 3, 0, "7+8+9+A6");
+        Due.sentence("18 count");
+        Probe x = new Probe();
+        x.write(0, 0, "#+1+#");
+        x.write(1, 0, "A1+2");
+        x.write(2, 0, "C1");
+        x.write(3, 0, "7+8+9+A6");
         due("cells", x.count(0), 4);
         due("terms", x.count(1), 10);
         due("broken", x.count(2), 2);
@@ -709,8 +708,8 @@ public final class PromiseTest {
     }
 
     private static void told() {
-        promise = "19 told";
-        SheetRefs x = new SheetRefs();
+        Due.sentence("19 told");
+        Probe x = new Probe();
         due("below", x.told(-1), BAD);
         due("above", x.told(5), BAD);
         due("far", x.told(HIGH), BAD);
@@ -718,7 +717,7 @@ public final class PromiseTest {
         x.back();
         x.back();
         due("NO", x.told(1), 2);
-        types(x, "1".repeat(60));
+        x.types("1".repeat(60));
         x.type('1');
         due("FULL", x.told(2), 1);
         due("bytes", x.told(3), 60);
@@ -735,26 +734,44 @@ public final class PromiseTest {
     }
 
     private static void digest() {
-        promise = "20 digest";
-        SheetRefs x = new SheetRefs();
-        due("of a new one", x.digest(), slowDigest(x));
-        write(x, 0, 0, "B1+#");
-        write(x, 1, 0, "A1:C$3+999");
-        write(x, 3, 4, "$F$6+A6");
-        x.back();
-        x.back();
-        x.back();
-        x.back();
+        Due.sentence("20 digest");
+        due("of a new one", new Probe().digest(), slowDigest(Probe::new));
+        due("of a used one", used().digest(), slowDigest(PromiseTest::used));
+        due("of a full one", filled().digest(), slowDigest(PromiseTest::filled));
+        Probe x = used();
+        long before = x.digest();
+        due("twice the same", x.digest(), before);
+        long then = x.digestOneMore(0);
         x.type(-1);
-        write(x, 5, 2, "F4:F3+$B$6");
-        write(x, 2, 5, "1+22+333+#");
-        due("of a used one", x.digest(), slowDigest(x));
-        due("twice the same", x.digest(), x.digest());
-        x.type(-1);
-        due("of a refusal more", x.digest(), slowDigest(x));
+        due("of a refusal more", x.digest(), then);
     }
 
-    private static long slowDigest(SheetRefs x) {
+    private static Probe used() {
+        Probe x = new Probe();
+        x.write(0, 0, "B1+#");
+        x.write(1, 0, "A1:C$3+999");
+        x.write(3, 4, "$F$6+A6");
+        for (int i = 0; i < 4; i++) {
+            x.back();
+        }
+        x.type(-1);
+        x.write(5, 2, "F4:F3+$B$6");
+        x.write(2, 5, "1+22+333+#");
+        return x;
+    }
+
+    private static Probe filled() {
+        Probe x = new Probe();
+        x.types("A$1:$F6+999+$B2+#");
+        for (int cell = 0; cell < 36; cell++) {
+            x.put(cell % 6, cell / 6);
+        }
+        return x;
+    }
+
+    /** A row from a new object each time: all cells of one would be too many calls. */
+    private static long slowDigest(Recipe recipe) {
+        Probe x = recipe.make();
         long h = 1626;
         for (int what = 0; what <= 4; what++) {
             h = 31 * h + x.told(what);
@@ -762,87 +779,66 @@ public final class PromiseTest {
         for (int what = 0; what <= 3; what++) {
             h = 31 * h + x.count(what);
         }
-        return cellsDigest(x, h);
-    }
-
-    private static long sheetDigest(SheetRefs x) {
-        return cellsDigest(x, 0);
-    }
-
-    private static long cellsDigest(SheetRefs x, long start) {
-        long h = start;
         for (int r = 0; r < 6; r++) {
-            for (int c = 0; c < 6; c++) {
-                h = 31 * h + x.terms(c, r);
-                for (int i = 0; i < x.terms(c, r); i++) {
-                    for (int what = 0; what <= 5; what++) {
-                        h = 31 * h + x.term(c, r, i, what);
-                    }
-                }
-                h = 31 * h + x.value(c, r);
-                h = 31 * h + x.why(c, r);
-            }
+            h = rowDigest(recipe.make(), r, h);
         }
         return h;
     }
 
-    private static void types(SheetRefs x, String text) {
-        for (int i = 0; i < text.length(); i++) {
-            x.type(text.charAt(i));
+    private static long rowDigest(Probe x, int r, long before) {
+        long h = before;
+        for (int c = 0; c < 6; c++) {
+            int size = x.terms(c, r);
+            h = 31 * h + size;
+            for (int i = 0; i < size; i++) {
+                for (int what = 0; what <= 5; what++) {
+                    h = 31 * h + x.term(c, r, i, what);
+                }
+            }
+            h = 31 * h + x.value(c, r);
+            h = 31 * h + x.why(c, r);
         }
+        return h;
     }
 
-    private static int write(SheetRefs x, int c, int r, String text) {
-        x.clear();
-        types(x, text);
-        return x.put(c, r);
+    private interface Recipe {
+        Probe make();
     }
 
-    private static void dueRead(SheetRefs x, String text, String want) {
-        due("terms of " + text, write(x, 2, 2, text), want.split("\\+").length);
+    private static void dueRead(Probe x, String text, String want) {
+        due("terms of " + text, x.write(2, 2, text), want.split("\\+").length);
         dueShown(x, 2, 2, want);
     }
 
-    private static void dueFault(SheetRefs x, String text, int place) {
-        due("put of \"" + text + "\"", write(x, 1, 1, text), -10 - place);
+    private static void dueFault(Probe x, String text, int place) {
+        due("put of \"" + text + "\"", x.write(1, 1, text), -10 - place);
         due("the text stays", x.told(3), text.length());
     }
 
-    private static void dueShown(SheetRefs x, int c, int r, String want) {
-        StringBuilder got = new StringBuilder();
-        for (int k = 0; k < 100 && x.shown(c, r, k) >= 0; k++) {
-            got.append((char) x.shown(c, r, k));
-        }
-        if (!got.toString().equals(want)) {
-            fail("cell " + c + ", " + r + " is shown as " + got + ", due is " + want);
-        }
+    private static void dueShown(Probe x, int c, int r, String want) {
+        due("cell " + c + ", " + r, x.written(c, r), want);
     }
 
-    private static void dueTerm(SheetRefs x, int c, int r, int i, int... want) {
-        for (int what = 0; what < want.length; what++) {
-            due("term(" + c + ", " + r + ", " + i + ", " + what + ")", x.term(c, r, i, what), want[what]);
-        }
+    private static void dueTerm(Probe x, int c, int r, int i, int... want) {
+        Due.dueTerm(x, c, r, i, want);
     }
 
-    private static void dueFaultOf(SheetRefs x, int c, int r, int fault, int why, int deep) {
+    private static void dueFaultOf(Probe x, int c, int r, int fault, int why, int deep) {
         String cell = c + ", " + r;
         if (fault != 0) {
             due("value of " + cell, x.value(c, r), -10 - fault);
         } else if (x.value(c, r) < 0) {
-            fail("value of " + cell + " is " + x.value(c, r));
+            Due.fail("value of " + cell + " is " + x.value(c, r));
         }
         due("why of " + cell, x.why(c, r), why);
         due("deep of " + cell, x.deep(c, r), deep);
     }
 
     private static void due(String what, long got, long want) {
-        if (got != want) {
-            fail(what + " answered " + got + ", due is " + want);
-        }
+        Due.due(what, got, want);
     }
 
-    private static void fail(String message) {
-        wrong++;
-        System.out.println("promise " + promise + ": " + message);
+    private static void due(String what, String got, String want) {
+        Due.due(what, got, want);
     }
 }
