@@ -49,7 +49,7 @@ public final class AreaEdgeTest {
 
     private static void areasOutOfTheSheet() {
         Due.sentence("BAD: each number of a MOVE or a COPY, one by one");
-        int[] others = {-1, 6, 7, Due.LOW, Due.LOW + 1, Due.LOW + 6, Due.HIGH - 6, Due.HIGH - 5, Due.HIGH - 1, Due.HIGH};
+        int[] others = {-1, 6, 7, Due.LOW, Due.LOW + 6, Due.HIGH - 6, Due.HIGH - 5, Due.HIGH - 1, Due.HIGH};
         for (int other : others) {
             dueArea(other, 0, 1, 1, 0, 0, Due.BAD);
             dueArea(0, other, 1, 1, 0, 0, Due.BAD);
@@ -77,7 +77,8 @@ public final class AreaEdgeTest {
     }
 
     private static void cellsMove() {
-        Due.sentence("CELLS of SOURCE come to TARGET, as they are; those of SOURCE that are not in TARGET are EMPTY then");
+        Due.sentence("CELLS of SOURCE come to TARGET, as they are; "
+            + "those of SOURCE that are not in TARGET are EMPTY then");
         for (int[] m : PAIRS) {
             Probe x = numbered();
             Due.due("no TERM to break", x.moves(m[0], m[1], m[2], m[3], m[4], m[5]), 0);
@@ -127,7 +128,8 @@ public final class AreaEdgeTest {
     }
 
     private static void blocksWhenMoved() {
-        Due.sentence("A BLOCK that lies in SOURCE wholly follows; else one that lies in TARGET wholly is BROKEN; others stay");
+        Due.sentence("A BLOCK that lies in SOURCE wholly follows; "
+            + "else one that lies in TARGET wholly is BROKEN; others stay");
         for (int[] m : PAIRS) {
             for (int first = 0; first < 36; first++) {
                 for (int second = first; second < 36; second++) {
@@ -239,7 +241,8 @@ public final class AreaEdgeTest {
     }
 
     private static void placesWhenCopied() {
-        Due.sentence("coordinates that are not FIXED as many columns, rows further; a coordinate out of the sheet: BROKEN");
+        Due.sentence("coordinates that are not FIXED as many columns, rows further; "
+            + "a coordinate out of the sheet: BROKEN");
         for (int by = -5; by <= 5; by++) {
             for (int down = -5; down <= 5; down++) {
                 for (int cell = 0; cell < 36; cell++) {

@@ -61,7 +61,8 @@ public final class FaceTest {
                 constants.add(f.getName());
             }
         }
-        expect(constants.equals(new TreeSet<>(Arrays.asList("NONE", "BAD", "NO", "FULL"))), "constants are " + constants);
+        Set<String> want = new TreeSet<>(Arrays.asList("NONE", "BAD", "NO", "FULL"));
+        expect(constants.equals(want), "constants are " + constants);
     }
 
     private static void checkInside(Class<?> inside) {

@@ -17,6 +17,7 @@ public final class ToldEdgeTest {
         fullCounts();
         toldNumbers();
         emptiesTells();
+        digestOfOneCell();
         Due.end();
     }
 
@@ -228,12 +229,12 @@ public final class ToldEdgeTest {
     private static void usersAtBlocksEdges() {
         Due.sentence("users: a PLACE that is it, a BLOCK that has it");
         Probe x = Probe.with(0, 0, "C3");
-        Probe y = Probe.with(0, 0, "B3:D$4");
+        Probe y = Probe.with(0, 0, "B3:E$4");
         for (int cell = 0; cell < 36; cell++) {
             int c = cell % 6;
             int r = cell / 6;
             Due.due("the PLACE at " + c + ", " + r, x.users(c, r), c == 2 && r == 2 ? 1 : 0);
-            boolean has = c >= 1 && c <= 3 && r >= 2 && r <= 3;
+            boolean has = c >= 1 && c <= 4 && r >= 2 && r <= 3;
             Due.due("the BLOCK at " + c + ", " + r, y.users(c, r), has ? 1 : 0);
         }
     }
@@ -308,5 +309,44 @@ public final class ToldEdgeTest {
             Due.due("nobody else", x.terms(4, 2) + x.terms(0, 3), 2 * size);
             Due.due("STATES", x.told(4), 5);
         }
+    }
+
+    /** The numbers one by one as the document lists them, of a sheet with one cell at either end. */
+    private static void digestOfOneCell() {
+        Due.sentence("h = 1626; then h = 31 h + v for each v");
+        for (int at = 0; at <= 5; at += 5) {
+            Probe x = Probe.with(at, at, "999+$B3+A1:$F$6+#");
+            x.type(-1);
+            x.back();
+            x.back();
+            x.back();
+            x.put(at, at);
+            // A1 asks itself by its block first; F6 meets itself at the block's last cell.
+            long h = 1626;
+            h = added(h, 1, 2, 0, 17, 1);
+            h = added(h, 1, 4, 1, 1);
+            for (int cell = 0; cell < 36; cell++) {
+                if (cell != 7 * at) {
+                    h = added(h, 0, 0, -1);
+                    continue;
+                }
+                h = added(h, 4);
+                h = added(h, 0, 999, 0, 0, 0, 0);
+                h = added(h, 1, 1, 2, 0, 0, 1);
+                h = added(h, 2, 0, 0, 5, 5, 12);
+                h = added(h, 3, 0, 0, 0, 0, 0);
+                h = added(h, -12, 11 * at);
+            }
+            Due.due("digest", x.digest(), h);
+            Due.due("twice the same", x.digest(), h);
+        }
+    }
+
+    private static long added(long before, int... numbers) {
+        long h = before;
+        for (int v : numbers) {
+            h = 31 * h + v;
+        }
+        return h;
     }
 }
